@@ -121,11 +121,11 @@ final class Bench {
         return words.toString();
     }
 
-    /** What the ten pins show, as points: "12-78" is two cells; a lone 0 is an empty one. */
+    /** What the ten pins show, as points: "12 0 78" is three cells, the second one empty. */
     String pins() {
         StringJoiner cells = new StringJoiner(" ");
         for (int i = 0; i < 10; i++) {
-            cells.add(points(desk.pin(i)));
+            cells.add(cell(desk.pin(i)));
         }
         return cells.toString();
     }
@@ -133,19 +133,24 @@ final class Bench {
     String pinsAnew() {
         StringJoiner cells = new StringJoiner(" ");
         for (int i = 0; i < 10; i++) {
-            cells.add(points(desk.pinAnew(i)));
+            cells.add(cell(desk.pinAnew(i)));
         }
         return cells.toString();
     }
 
-    private static String points(int cell) {
+    private static String cell(int cell) {
+        return cell == 0 ? "0" : points(cell);
+    }
+
+    /** The points of a cell, or of the keys for points. */
+    static String points(int cell) {
         StringBuilder points = new StringBuilder();
         for (int i = 0; i < 8; i++) {
             if ((cell & 1 << i) != 0) {
                 points.append(i + 1);
             }
         }
-        return points.length() == 0 ? "0" : points.toString();
+        return points.toString();
     }
 
     /** Lets ticks pass, and tells what is spoken in them. */

@@ -402,35 +402,30 @@ public final class KeysTest {
     }
 
     private static void otherChords() {
-        Bench bench = new Bench();
-        bench.add(0, BUTTON, "b");
-        bench.add(0, EDIT, "e");
+        String letters = ",1245,12,14,15,2345,1235,123,";
         String commands = ",1,4,3,6,2,5,2345,8,7,123,456,1235,";
         for (int keys = 1; keys < 256; keys++) {
-            StringBuilder points = new StringBuilder();
-            for (int i = 0; i < 8; i++) {
-                points.append((keys & 1 << i) == 0 ? "" : i + 1);
+            String points = "," + Bench.points(keys) + ",";
+            if (!letters.contains(points)) {
+                nothingIsDone("by " + points, keys);
             }
-            boolean isLetter = ",1245,12,14,15,2345,1235,123,".contains("," + points + ",");
-            if (!isLetter) {
-                bench.desk.chord(keys);
-                checks.same("41: nothing by " + points, 0, bench.desk.waiting(1));
+            if (!commands.contains(points)) {
+                nothingIsDone("by the space and " + points, 256 | keys);
             }
         }
-        bench.space();
-        checks.same("41: nothing by the space alone", 0, bench.desk.waiting(1));
-        Bench other = new Bench();
-        for (int keys = 1; keys < 256; keys++) {
-            StringBuilder points = new StringBuilder();
-            for (int i = 0; i < 8; i++) {
-                points.append((keys & 1 << i) == 0 ? "" : i + 1);
-            }
-            if (!commands.contains("," + points + ",")) {
-                other.desk.chord(256 | keys);
-                checks.same("41: nothing by the space and " + points, 0, other.desk.waiting(1));
-            }
-        }
-        checks.same("28: nothing moved", 0, bench.desk.cursor() + other.desk.cursor());
+        nothingIsDone("by the space alone", 256);
+    }
+
+    private static void nothingIsDone(String what, int keys) {
+        Bench bench = new Bench();
+        bench.add(0, BUTTON, "abcdefghijkl");
+        bench.add(0, EDIT, "e");
+        bench.tab();
+        String line = bench.pins();
+        checks.same("27: the cursor " + what, 1, bench.desk.chord(keys));
+        checks.same("33: the line " + what, line, bench.pins());
+        checks.same("37: the words before " + what, "abcdefghijkl button", bench.listen(50));
+        checks.same("44: dropped " + what, 0, bench.desk.dropped());
     }
 
     private static void lostCursor() {

@@ -226,19 +226,17 @@ public final class TypingTest {
     }
 
     private static void otherChords() {
-        Bench bench = typing();
         String meant = "," + String.join(",", LETTERS) + ",6,3456,56,256,2,236,36,7,8,";
         for (int keys = 1; keys < 256; keys++) {
-            StringBuilder points = new StringBuilder();
-            for (int i = 0; i < 8; i++) {
-                points.append((keys & 1 << i) == 0 ? "" : i + 1);
-            }
+            String points = Bench.points(keys);
             if (!meant.contains("," + points + ",")) {
-                bench.desk.chord(keys);
+                Bench bench = typed("6", points);
                 checks.same("41: nothing by " + points, 0, bench.desk.waiting(1));
+                checks.same("17: nothing typed by " + points, 0, bench.desk.contentLength(1));
+                checks.same("30: typing goes on by " + points, true, bench.desk.isTyping());
+                bench.points("1");
+                checks.same("18: what was told stays so by " + points, "A", bench.content(1));
             }
         }
-        checks.same("17: nothing typed", 0, bench.desk.contentLength(1));
-        checks.same("30: typing goes on", true, bench.desk.isTyping());
     }
 }
