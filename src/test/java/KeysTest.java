@@ -121,6 +121,11 @@ public final class KeysTest {
         checks.same("27: answer by IN", "none", bench.listen(9));
         checks.same("27: OUT", 1, bench.out());
         checks.same("27: words by OUT", "g group", bench.listen(9));
+        bench.desk.hide(2, false);
+        checks.same("27: IN to the first of two", 2, bench.in());
+        bench.desk.hide(2, true);
+        bench.listen(50);
+        bench.out();
         bench.desk.hide(3, true);
         checks.same("27: IN where nothing is shown", 1, bench.in());
         checks.same("27: answer where nothing is shown", "none", bench.listen(9));
@@ -258,6 +263,10 @@ public final class KeysTest {
         bench.desk.hide(8, true);
         checks.same("27: both heads, though hidden", "ba ac go button", said(bench, bench.tab()));
         checks.same("27: TAB to where it is, without heads", "go button", said(bench, bench.tab()));
+        bench.rename(8, "r");
+        bench.rename(13, "c");
+        goTo(bench, 6);
+        checks.same("27: short heads", "r c go button", said(bench, bench.tab()));
     }
 
     private static void otherTables() {

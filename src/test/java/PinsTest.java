@@ -11,6 +11,7 @@ public final class PinsTest {
         lines();
         contents();
         offsets();
+        offsetsElsewhere();
         clippedOffsets();
         asking();
         checks.finish();
@@ -69,6 +70,13 @@ public final class PinsTest {
         written("AB-c", "6 6 1 12 36 14");
         written("a-BC", "1 36 6 6 12 14");
         written("Z", "6 1356");
+        written("AZ", "6 6 1 1356");
+        written("ZA", "6 6 1356 1");
+        written("Az", "6 1 1356");
+        written("zA", "1356 6 1");
+        written("ABz", "6 1 6 12 1356");
+        written("zAB", "1356 6 1 6 12");
+        written("AaA", "6 1 1 6 1");
         written("@A[", "123456 6 1 123456");
         written("`z{", "123456 1356 123456");
         written("/0:", "123456 3456 245 123456");
@@ -194,6 +202,36 @@ public final class PinsTest {
         checks.same("31: the cursor stays", 10, bench.desk.offset());
     }
 
+    /** The other elements have lines as long, so that nothing but the move itself makes the offset 0. */
+    private static void offsetsElsewhere() {
+        String[] going = {"4", "1", "2345", "3", "6"};
+        for (String points : going) {
+            Bench bench = new Bench();
+            bench.add(0, BrailleDesk.GROUP, "a1b2c3d4e5f6");
+            bench.add(1, BrailleDesk.GROUP, "a1b2c3d4e5f6");
+            bench.add(2, BrailleDesk.BUTTON, "a1b2c3d4e5f6");
+            bench.next();
+            bench.next();
+            bench.goRight();
+            checks.same("31: ahead of " + points, 10, bench.desk.offset());
+            bench.command(points);
+            checks.same("31: by " + points, 0, bench.desk.offset());
+        }
+        Bench bench = new Bench();
+        bench.add(0, BrailleDesk.TEXT, "a1b2c3d4e5f6");
+        bench.add(0, BrailleDesk.BUTTON, "a1b2c3d4e5f6");
+        bench.add(0, BrailleDesk.TEXT, "a1b2c3d4e5f6");
+        bench.next();
+        bench.goRight();
+        bench.points("12");
+        checks.same("28: by a letter", 2, bench.desk.cursor());
+        checks.same("31: by a letter", 0, bench.desk.offset());
+        bench.goRight();
+        bench.desk.remove(2);
+        checks.same("31: lost to a long line", 0, bench.desk.offset());
+        checks.same("33: lost to a long line", "1 3456 1 56 12 3456 12 56 14 3456", bench.pins());
+    }
+
     private static void clippedOffsets() {
         Bench bench = new Bench();
         bench.add(0, BrailleDesk.TEXT, "a1b2c3d4e5f6");
@@ -208,6 +246,11 @@ public final class PinsTest {
         checks.same("31: 20 are not below 20", 10, bench.desk.offset());
         bench.rename(1, "abcdefghij");
         checks.same("31: 10 are not below 10", 0, bench.desk.offset());
+        bench.rename(1, "a1b2c3d4e5f6");
+        bench.goRight();
+        bench.goRight();
+        bench.rename(1, "abcdefghijk");
+        checks.same("31: 10 are below 11, 20 are not", 10, bench.desk.offset());
         bench.rename(1, "a1b2c3d4e5f6");
         bench.goRight();
         bench.goRight();
