@@ -309,7 +309,7 @@ public final class TreeTest {
         checks.index("24: far more", () -> bench.desk.readingAt(Integer.MAX_VALUE));
     }
 
-    /** 0 has the TEXT 1, the GROUP 2 and the LIVE 6 with the BUTTON 7; 2 has the GROUP 3, with the EDIT 5, and the CHECK 4. */
+    /** The TEXT 1, the GROUP 2 (in it the GROUP 3 with the EDIT 5, and the CHECK 4), the LIVE 6 (with the BUTTON 7). */
     private static Bench tree() {
         Bench bench = new Bench();
         bench.add(0, TEXT, "one");
