@@ -163,6 +163,14 @@ final class Bench {
         return heard.toString();
     }
 
+    /** What is spoken by this alone: what was to be spoken ahead of it is let through first. */
+    String told(Runnable act) {
+        desk.tick(50);
+        desk.tick(50);
+        act.run();
+        return listen(50);
+    }
+
     String children(int element) {
         StringJoiner numbers = new StringJoiner(" ");
         for (int i = 0; i < desk.children(element); i++) {
@@ -194,15 +202,59 @@ final class Bench {
         state.add("waiting " + waiting()).add("speaking " + desk.speaking() + " " + desk.left());
         state.add("dropped " + desk.dropped()).add("swallowed " + desk.swallowed());
         state.add("heard " + desk.heard() + " at " + desk.time());
-        state.add("will be heard " + listen(50));
+        state.add("will be heard " + untilSilence());
         for (int key = 0; key < 9; key++) {
             int pressed = key;
-            state.add("key " + Checks.answer(() -> desk.press(pressed)));
+            state.add("key " + Checks.answer(() -> desk.release(pressed)));
+        }
+        state.add("then the cursor is at " + desk.cursor()).add("a is typed " + points("1"));
+        if (desk.isTyping()) {
+            state.add("to " + content(desk.focus()));
         }
         state.add("draft has " + Checks.answer(() -> desk.draft('z')));
+        desk.tick(50);
         state.add("made " + Checks.answer(() -> desk.add(0, 0, BrailleDesk.TEXT)));
         state.add("draft " + Checks.answer(() -> name(desk.childAt(0, 0))));
         return state.toString();
+    }
+
+    /** How much is spoken in each of some ticks, and the last hundred characters of that. */
+    private String untilSilence() {
+        StringJoiner heard = new StringJoiner(" ");
+        for (int i = 0; i < 6; i++) {
+            heard.add("" + desk.tick(50)).add(waiting());
+        }
+        for (int back = 0; back < 100 && back < desk.heard(); back++) {
+            heard.add("" + desk.heardAt(back));
+        }
+        return heard.toString();
+    }
+
+    /** A LOUD region 1 with a CHECK 2, by which so many ALERTs wait, and a draft. */
+    static Bench alerts(int count) {
+        Bench bench = new Bench();
+        bench.add(0, BrailleDesk.LIVE, "l");
+        bench.desk.setManner(1, BrailleDesk.QUIET);
+        bench.add(1, BrailleDesk.CHECK, "c");
+        bench.desk.setManner(1, BrailleDesk.LOUD);
+        bench.desk.setRule(1, BrailleDesk.LESS);
+        for (int i = 0; i < count; i++) {
+            bench.rename(2, i % 2 == 0 ? "d" : "c");
+        }
+        bench.draft("xy");
+        return bench;
+    }
+
+    static Bench twentyAlerts() {
+        return alerts(20);
+    }
+
+    /** By the last call two came, of the region and for the cursor. */
+    static Bench twentyOneAlerts() {
+        Bench bench = alerts(19);
+        bench.tab();
+        bench.desk.hide(2, true);
+        return bench;
     }
 
     private String elementState(int element) {

@@ -5,11 +5,21 @@ import java.util.function.Supplier;
 /** Counts what a test looked at, prints what was not as due, and ends the program by that. */
 final class Checks {
     private final String test;
+    private String beside = "";
     private int made;
     private int wrong;
 
     Checks(String test) {
         this.test = test;
+    }
+
+    /** What stands beside the checks that follow: a promise's number, and words of the document. */
+    void beside(String words) {
+        beside = words + ": ";
+    }
+
+    int made() {
+        return made;
     }
 
     /** The answer of a call; the name of its exception behind throws. if it throws one. */
@@ -25,7 +35,7 @@ final class Checks {
         made++;
         if (!Objects.equals(due, got)) {
             wrong++;
-            System.out.println(test + ": " + what + " answered " + got + ", due is " + due);
+            System.out.println(test + ": " + beside + what + " answered " + got + ", due is " + due);
         }
     }
 
