@@ -159,6 +159,20 @@ final class KeysSentences extends Constants {
             bench.command("1235");
             checks.same("1235 AGAIN", 1, bench.desk.waiting(ANSWER));
         });
+        sentences.term(TITLE, 27, words, checks -> {
+            for (String points : new String[] {"6", "2", "5", "8", "7", "1235"}) {
+                Bench bench = new Bench();
+                bench.add(0, BUTTON, "abcdefghijkl");
+                bench.next();
+                bench.goRight();
+                bench.command(points);
+                checks.same("the offset behind " + points, 10, bench.desk.offset());
+                checks.same("the cursor behind " + points, 1, bench.desk.cursor());
+                checks.same("presses behind " + points, points.equals("8") ? 1 : 0, bench.desk.presses(1));
+                checks.same("focus behind " + points, points.equals("8") ? 1 : NONE, bench.desk.focus());
+                checks.same("answers behind " + points, points.equals("7") ? 0 : 1, bench.desk.waiting(ANSWER));
+            }
+        });
         sentences.term(TITLE, 27, "with other points nothing is done.", checks -> {
             for (int from = 1; from < 256; from += 64) {
                 Bench bench = new Bench();
@@ -341,6 +355,15 @@ final class KeysSentences extends Constants {
             checks.same("DOWN at a ROW", "none", bench.told(bench::down));
             checks.same("UP at a ROW", "none", bench.told(bench::up));
             checks.same("it stays", 2, bench.desk.cursor());
+            Bench groups = new Bench();
+            for (int group = 1; group <= 5; group += 2) {
+                groups.add(0, GROUP, "");
+                groups.add(group, TEXT, "x");
+            }
+            go(groups, 4);
+            checks.same("UP in a GROUP between others", "none", groups.told(groups::up));
+            checks.same("DOWN in a GROUP between others", "none", groups.told(groups::down));
+            checks.same("it stays", 4, groups.desk.cursor());
         });
         sentences.term(TITLE, 27, words, checks -> {
             Bench bench = new Bench();

@@ -126,12 +126,15 @@ final class PinsSentences extends Constants {
             checks.same("a row of two", "6 6 1 12", written("AB"));
             checks.same("a row of three", "6 6 1 12 14", written("ABC"));
             checks.same("a row to the last letter", "6 6 1 1356", written("AZ"));
+            checks.same("a row from the last letter", "6 6 1356 1", written("ZA"));
             checks.same("twelve: length", 14, at(TEXT, "ABCDEFGHIJKL", PLAIN).desk.lineLength());
             checks.same("a small one at its end", "6 1 6 12 14", written("ABc"));
             checks.same("a small one at its beginning", "1 6 12 6 14", written("aBC"));
             checks.same("a small one in the midst", "6 1 12 6 14", written("AbC"));
             checks.same("the first small one", "6 1 1", written("Aa"));
             checks.same("the last small one", "6 1 1356", written("Az"));
+            checks.same("the first small one behind two", "6 1 6 12 1", written("ABa"));
+            checks.same("the last small one behind two", "6 1 6 12 1356", written("ABz"));
         });
         sentences.term(TITLE, 33, row, checks -> {
             checks.same("two rows by a space", "6 6 1 12 0 6 14", written("AB C"));
@@ -142,6 +145,10 @@ final class PinsSentences extends Constants {
             checks.same("what is behind Z", "6 1356 123456", written("Z["));
             checks.same("what is ahead of a", "6 1 123456", written("A`"));
             checks.same("what is behind z", "6 1 123456 6 12", written("A{B"));
+            checks.same("a row behind what is ahead of A", "123456 6 6 1 12", written("@AB"));
+            checks.same("a row ahead of what is behind Z", "6 6 1 12 123456", written("AB["));
+            checks.same("a row behind what is ahead of a", "123456 6 6 1 12", written("`AB"));
+            checks.same("a row ahead of what is behind z", "6 6 1 12 123456", written("AB{"));
             checks.same("a high code", "6 1 123456 6 12", written("A\uD834\uDD00B"));
         });
     }

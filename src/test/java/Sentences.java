@@ -28,7 +28,7 @@ final class Sentences {
     }
 
     private Section sectionUnder(String title, String heading) {
-        boolean isOfTerms = heading.startsWith("### ") || title.equals("Terms");
+        boolean isOfTerms = heading.startsWith("### ") || title.equals("Terms") || title.equals("What it is");
         if (!isOfTerms && !title.startsWith("Promise ")) {
             return null;
         }

@@ -207,6 +207,24 @@ final class SpeechSentences extends Constants {
             checks.same("it cuts no ALERT", "yzw", bench.listen(50));
             checks.same("none is dropped", 0, bench.desk.dropped());
         });
+        sentences.term(TITLE, 37, "When an ALERT comes, it waits behind all others that wait;", checks -> {
+            Bench bench = new Bench();
+            bench.add(0, LIVE, "");
+            bench.desk.setManner(1, LOUD);
+            bench.add(1, TEXT, "Z");
+            bench.next();
+            bench.next();
+            bench.hush();
+            bench.desk.tick(1);
+            StringBuilder due = new StringBuilder();
+            for (char name = 'a'; name < 'a' + 19; name++) {
+                bench.rename(2, "" + name);
+                due.append(name);
+            }
+            bench.desk.remove(2);
+            checks.same("as many as can be", "0 0 21", bench.waiting());
+            checks.same("all are heard, in their order", due + "gone slost live", bench.listen(50));
+        });
         sentences.term(TITLE, 44, "a NEWS that is being spoken is dropped;", checks -> {
             Bench bench = lives();
             news(bench, 1, "abc");
@@ -265,6 +283,11 @@ final class SpeechSentences extends Constants {
             bench.again();
             checks.same("dropped by another ANSWER while it waits again", 1, bench.desk.dropped());
             checks.same("which begins at its beginning", "xgroup", bench.listen(50));
+            bench.tab();
+            bench.desk.tick(4);
+            alert(bench, "y");
+            bench.again();
+            checks.same("the one before would have gone on later", "yab cd edit", bench.listen(50));
         });
         String space = "or with that character if it is a space; a word is a row of characters other than spaces, "
                 + "as long as it can be.";

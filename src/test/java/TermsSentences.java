@@ -13,10 +13,40 @@ final class TermsSentences extends Constants {
     }
 
     static void all(Sentences sentences) {
+        calls(sentences);
         kept(sentences);
         nothingChanges(sentences);
         kindsOfExceptions(sentences);
         several(sentences);
+    }
+
+    private static void calls(Sentences sentences) {
+        String title = "What it is";
+        sentences.asksNoTest(title, "A reader of a screen for fingers and ears: a tree of elements that changes, a cursor "
+                + "that goes over it, a line of pins in the letters of points, keys pressed together whose meaning "
+                + "depends on the mode, speech in a queue that is cut and goes on, regions that tell what has changed "
+                + "in them, and rules that say less or more by place.");
+        String words = "An object is used for at most 512 calls after it has been made; what later calls answer is free.";
+        sentences.term(title, 38, words, checks -> {
+            BrailleDesk ticking = new BrailleDesk();
+            for (int i = 1; i <= 510; i++) {
+                ticking.tick(50);
+            }
+            checks.same("the 511th call", 0, ticking.tick(50));
+            checks.same("the 512th call", 511 * 50, ticking.time());
+            BrailleDesk pressed = new BrailleDesk();
+            pressed.add(0, 0, BUTTON);
+            pressed.chord(256 + 8);
+            for (int i = 3; i <= 511; i++) {
+                pressed.chord(256 + 128);
+            }
+            checks.same("the 512th call", 509, pressed.presses(1));
+            BrailleDesk refused = new BrailleDesk();
+            for (int i = 1; i <= 511; i++) {
+                Checks.answer(() -> refused.kind(1));
+            }
+            checks.index("the 512th call is refused, too", () -> refused.kind(1));
+        });
     }
 
     private static void anew(Checks checks, String what, Bench bench) {
