@@ -12,7 +12,7 @@ public final class BrailleDesk {
     private static final int MOST_ELEMENTS = 40;
     private static final int MOST_CHILDREN = 10;
     private static final int MOST_CHARACTERS = 12;
-    /** The longest text, two heads of a table and the words of an EDIT by MORE, has 67 characters. */
+    /** The longest text, two heads of a table and the words of an EDIT by MORE, has 65 characters. */
     private static final int MOST_TEXT = 80;
     /** The longest line, two rows of characters that make two cells each, has 51 cells. */
     private static final int MOST_CELLS = 64;
